@@ -1,0 +1,133 @@
+import java.lang.reflect.Constructor;
+import java.lang.reflect.Method;
+import java.math.BigInteger;
+import java.util.Random;
+
+/**
+ * The rows of limbs by themselves, with limbs of all 0 and all 1: no seed that one could
+ * find leads to the carries that these make, so the public face can't show them.
+ */
+final class RowsTest {
+    private static final long[] LIMBS = {0, 1, 2, 0x7FFFFFFFL, 0x80000000L, 0xFFFFFFFEL, 0xFFFFFFFFL};
+    private final Checks checks = new Checks();
+    private final Random random = new Random(7);
+
+    public static void main(String[] args) throws Exception {
+        RowsTest test = new RowsTest();
+        for (int width = 1; width <= 20; width++) {
+            for (int i = 0; i < 200; i++) {
+                test.rows(width);
+                test.modulus(width);
+                test.inverseOfE(Math.max(8, width));
+            }
+        }
+        test.checks.end("RowsTest");
+    }
+
+    private long[] row(int width) {
+        long[] row = new long[width];
+        for (int i = 0; i < width; i++) {
+            boolean edge = random.nextInt(4) > 0;
+            row[i] = edge ? LIMBS[random.nextInt(LIMBS.length)] : random.nextInt() & 0xFFFFFFFFL;
+        }
+        return row;
+    }
+
+    private static BigInteger number(long[] row) {
+        BigInteger sum = BigInteger.ZERO;
+        for (int i = 0; i < row.length; i++) {
+            sum = sum.add(BigInteger.valueOf(row[i]).shiftLeft(32 * i));
+        }
+        return sum;
+    }
+
+    private void same(String what, long[] row, BigInteger want) {
+        checks.holds(what + " is " + number(row) + ", due is " + want, number(row).equals(want));
+        for (long limb : row) {
+            checks.holds(what + " has limbs", limb >>> 32 == 0);
+        }
+    }
+
+    private static Object call(String inside, Object on, String name, Object... with) throws Exception {
+        for (Method m : Class.forName("SignHouse$" + inside).getDeclaredMethods()) {
+            if (m.getName().equals(name)) {
+                m.setAccessible(true);
+                return m.invoke(on, with);
+            }
+        }
+        throw new IllegalArgumentException(name);
+    }
+
+    private static Object make(String inside, int width) throws Exception {
+        Constructor<?> c = Class.forName("SignHouse$" + inside).getDeclaredConstructor(int.class);
+        c.setAccessible(true);
+        return c.newInstance(width);
+    }
+
+    private void rows(int width) throws Exception {
+        long[] a = row(width);
+        long[] b = random.nextInt(8) == 0 ? a.clone() : row(width);
+        BigInteger x = number(a), y = number(b), all = BigInteger.ONE.shiftLeft(32 * width);
+        checks.due("order", Integer.signum((Integer) call("Rows", null, "order", a, b)), x.compareTo(y));
+        long[] to = a.clone();
+        call("Rows", null, "add", to, b);
+        same("sum", to, x.add(y).mod(all));
+        boolean below = (Boolean) call("Rows", null, "subtract", to, a, b);
+        same("difference", to, x.subtract(y).mod(all));
+        checks.holds("borrowed", below == (x.compareTo(y) < 0));
+        long[] product = row(2 * width);
+        call("Rows", null, "multiply", product, a, b);
+        same("product", product, x.multiply(y));
+        to = a.clone();
+        call("Rows", null, "lessen", to, 2L);
+        same("lessened", to, x.subtract(BigInteger.TWO).mod(all));
+        checks.due("bits", (Integer) call("Rows", null, "bitCount", a), x.bitLength());
+        int[] divisors = {3, 251, 65537, Integer.MAX_VALUE};
+        for (int divisor : divisors) {
+            checks.due("rest", (Long) call("Rows", null, "remainder", a, divisor), x.mod(BigInteger.valueOf(divisor)).longValue());
+        }
+        if (x.signum() != 0) {
+            int halvings = (Integer) call("Rows", null, "halveUntilOdd", a);
+            checks.due("halvings", halvings, x.getLowestSetBit());
+            same("odd part", a, x.shiftRight(halvings));
+        }
+    }
+
+    private void modulus(int width) throws Exception {
+        long[] m = row(width);
+        m[0] |= 1;
+        m[width - 1] |= 2;
+        BigInteger by = number(m);
+        Object modulus = make("Modulus", width);
+        call("Modulus", modulus, "choose", (Object) m);
+        long[] wide = row(2 * width);
+        long[] to = row(width);
+        call("Modulus", modulus, "reduce", to, wide);
+        same("remainder", to, number(wide).mod(by));
+        long[] a = to.clone();
+        call("Modulus", modulus, "reduce", to, row(width));
+        long[] b = random.nextInt(5) == 0 ? a : to.clone();
+        BigInteger x = number(a), y = number(b);
+        call("Modulus", modulus, "times", to, a, b);
+        same("modular product", to, x.multiply(y).mod(by));
+        if (random.nextInt(10) == 0) {
+            long[] exponent = row(1 + random.nextInt(width));
+            call("Modulus", modulus, "raise", to, a, exponent);
+            same("modular power", to, x.modPow(number(exponent), by));
+        }
+    }
+
+    private void inverseOfE(int width) throws Exception {
+        BigInteger e = BigInteger.valueOf(65537);
+        long[] by = row(width);
+        if (number(by).mod(e).signum() == 0) {
+            return;
+        }
+        long[] to = row(width);
+        call("KeyRows", make("KeyRows", (width + 1) / 2), "invertE", to, by);
+        BigInteger want = e.modInverse(number(by));
+        if (number(by).signum() > 0) {
+            same("inverse", to, want);
+        }
+    }
+}
