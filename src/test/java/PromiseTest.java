@@ -26,6 +26,7 @@ final class PromiseTest {
         test.searches();
         test.candidates();
         test.searchesInParts();
+        test.searchesOfLongSeeds();
         test.forgets();
         test.keys();
         test.counts();
@@ -237,6 +238,26 @@ final class PromiseTest {
             due("but no key", x.key(what, 0), NO);
         }
         due("nor can one sign", x.sign(), NO);
+    }
+
+    /** Every prime below 256 is, somewhere here, the only one of them that divides a candidate. */
+    private void searchesOfLongSeeds() {
+        for (int round = 0; round < 60; round++) {
+            SignHouse x = new SignHouse(31 + round % 10, 1 + round % 8);
+            Model model = new Model(31 + round % 10, 1 + round % 8);
+            for (int i = 0; i <= round % 16; i++) {
+                int word = (round * 16 + i + 1) * 0x9E3779B9;
+                due("a word of many", x.seed(word), model.seed(word));
+            }
+            int found = 0;
+            while (found == 0) {
+                found = model.search(1 + round);
+                due("search of a long seed", x.search(1 + round), found);
+                due("examined", x.count(3), model.count(3));
+                due("undivided", x.count(4), model.count(4));
+            }
+            due("its key", x.digest(), model.digest());
+        }
     }
 
     private void forgets() {

@@ -1,14 +1,22 @@
 import java.lang.reflect.Constructor;
+import java.lang.reflect.Field;
 import java.lang.reflect.Method;
 import java.math.BigInteger;
 import java.util.Random;
 
 /**
- * The rows of limbs by themselves, with limbs of all 0 and all 1: no seed that one could
- * find leads to the carries that these make, so the public face can't show them.
+ * What no seed that one could find leads to, so that the public face can't show it: rows
+ * with limbs of all 0 and all 1, numbers that pass for primes and are none, one prime twice.
  */
 final class RowsTest {
     private static final long[] LIMBS = {0, 1, 2, 0x7FFFFFFFL, 0x80000000L, 0xFFFFFFFEL, 0xFFFFFFFFL};
+
+    /** Each passes for a prime by some of the bases 2 .. 19; none is a prime. */
+    private static final long[] FALSE_PRIMES = {
+        2047L, 1373653L, 25326001L, 3215031751L, 2152302898747L, 3474749660383L, 341550071728321L,
+        2465668748791L, 750288179106901L, 7179667355042461L, 267118362607141L, 4627853036319787L,
+        15276810864696481L
+    };
     private final Checks checks = new Checks();
     private final Random random = new Random(7);
 
@@ -21,6 +29,9 @@ final class RowsTest {
                 test.inverseOfE(Math.max(8, width));
             }
         }
+        test.productsThatVanish();
+        test.goodNumbers();
+        test.sameNumberTwice();
         test.checks.end("RowsTest");
     }
 
@@ -129,5 +140,58 @@ final class RowsTest {
         if (number(by).signum() > 0) {
             same("inverse", to, want);
         }
+    }
+
+    private void productsThatVanish() throws Exception {
+        for (int i = 0; i < 50; i++) {
+            long[] p = {random.nextInt() & 0xFFFFFFFFL | 3, 0};
+            long[] q = {random.nextInt() & 0xFFFFFFFFL | 3, 0};
+            long[] n = new long[2];
+            call("Rows", null, "multiply", n, p, q);
+            Object modulus = make("Modulus", 2);
+            call("Modulus", modulus, "choose", (Object) n);
+            long[] to = row(2);
+            call("Modulus", modulus, "times", to, p, q);
+            same("p q by p q", to, BigInteger.ZERO);
+        }
+    }
+
+    private static Object hunt(int rounds) throws Exception {
+        for (Constructor<?> c : Class.forName("SignHouse$Hunt").getDeclaredConstructors()) {
+            c.setAccessible(true);
+            return c.newInstance(null, 31, 8, rounds);
+        }
+        throw new IllegalArgumentException("no constructor");
+    }
+
+    private static void put(Object hunt, String field, long[] value) throws Exception {
+        Field f = hunt.getClass().getDeclaredField(field);
+        f.setAccessible(true);
+        System.arraycopy(value, 0, (long[]) f.get(hunt), 0, value.length);
+    }
+
+    private void goodNumbers() throws Exception {
+        for (long falsePrime : FALSE_PRIMES) {
+            BigInteger c = BigInteger.valueOf(falsePrime);
+            checks.holds(c + " is no prime", !c.isProbablePrime(40));
+            for (int rounds = 1; rounds <= 8; rounds++) {
+                Object hunt = hunt(rounds);
+                put(hunt, "candidate", new long[] {falsePrime & 0xFFFFFFFFL, falsePrime >>> 32});
+                boolean good = (Boolean) call("Hunt", hunt, "isGood");
+                checks.holds(c + " by " + rounds + " rounds", good == Model.passes(c, rounds));
+            }
+        }
+    }
+
+    private void sameNumberTwice() throws Exception {
+        Object hunt = hunt(8);
+        long[] prime = {1000003L};
+        put(hunt, "candidate", prime);
+        put(hunt, "first", prime);
+        checks.holds("a prime, p not yet found", (Boolean) call("Hunt", hunt, "isGood"));
+        Field found = hunt.getClass().getDeclaredField("primesFound");
+        found.setAccessible(true);
+        found.setInt(hunt, 1);
+        checks.holds("p once more", !(Boolean) call("Hunt", hunt, "isGood"));
     }
 }
