@@ -514,7 +514,7 @@ public final class SignHouse {
         /** Adds the multiple of the modulus that makes the lowest limb 0, and shifts it out. */
         private void dropLowLimb() {
             long multiple = sum[0] * negativeInverse & Rows.LIMB;
-            long carry = multiple * modulus[0] + sum[0] >>> Rows.LIMB_BITS;
+            long carry = (multiple * modulus[0] + sum[0]) >>> Rows.LIMB_BITS;
             for (int j = 1; j < width; j++) {
                 long v = multiple * modulus[j] + sum[j] + carry;
                 sum[j - 1] = v & Rows.LIMB;
