@@ -9,7 +9,7 @@ final class PromiseTest {
     private static final BigInteger E = BigInteger.valueOf(65537);
 
     // The first candidate that each of these words draws for a HALF of 31 is of the told kind;
-    // firstCandidate() lets the test look whether it really is.
+    // Houses.firstCandidate() lets the test look whether it really is.
     private static final int PRIME_THAT_LEAVES_1_BY_E = 1188237;
     private static final int DIVIDED_BY_251_AND_NONE_BELOW = 2177;
     private static final int DIVIDED_BY_257_AND_NONE_BELOW = 657;
@@ -45,58 +45,6 @@ final class PromiseTest {
 
     private void due(String what, long got, long want) {
         checks.due(what, got, want);
-    }
-
-    private static SignHouse withKey(int half, int rounds, int word) {
-        SignHouse x = new SignHouse(half, rounds);
-        x.seed(word);
-        findKey(x);
-        return x;
-    }
-
-    private static void findKey(SignHouse x) {
-        int calls = 0;
-        while (calls < 60 && x.search(60) == 0) {
-            calls++;
-        }
-    }
-
-    private static BigInteger keyNumber(SignHouse x, int what) {
-        int length = what < 2 ? 2 * x.count(0) : x.count(0);
-        byte[] row = new byte[length];
-        for (int i = 0; i < length; i++) {
-            row[i] = (byte) x.key(what, i);
-        }
-        return new BigInteger(1, row);
-    }
-
-    private static BigInteger registerOf(SignHouse x) {
-        byte[] row = new byte[2 * x.count(0)];
-        for (int i = 0; i < row.length; i++) {
-            row[i] = (byte) x.get(i);
-        }
-        return new BigInteger(1, row);
-    }
-
-    private static void putRegister(SignHouse x, BigInteger number) {
-        int size = 2 * x.count(0);
-        for (int i = 0; i < size; i++) {
-            x.set(i, number.shiftRight(8 * (size - 1 - i)).intValue() & 255);
-        }
-    }
-
-    private static BigInteger encodedOf(SignHouse x) {
-        byte[] row = new byte[2 * x.count(0)];
-        for (int i = 0; i < row.length; i++) {
-            row[i] = (byte) x.encoded(i);
-        }
-        return new BigInteger(1, row);
-    }
-
-    private static void feedText(SignHouse x, String text) {
-        for (int i = 0; i < text.length(); i++) {
-            x.feed(text.charAt(i), 1);
-        }
     }
 
     private void same(String what, BigInteger got, BigInteger want) {
@@ -151,7 +99,7 @@ final class PromiseTest {
         due("words after it", y.count(2), 2);
         due("digest is as it was", y.digest(), digest);
 
-        SignHouse z = withKey(31, 1, 7);
+        SignHouse z = Houses.withKey(31, 1, 7);
         due("seed when there is a key", z.seed(1), NO);
     }
 
@@ -177,12 +125,6 @@ final class PromiseTest {
         due("nothing more was examined", x.count(3), 105);
     }
 
-    private BigInteger firstCandidate(int word) {
-        Model model = new Model(31, 8);
-        model.seed(word);
-        return model.nextCandidate();
-    }
-
     private SignHouse afterOneCandidate(int word) {
         SignHouse x = new SignHouse(31, 8);
         x.seed(word);
@@ -191,39 +133,39 @@ final class PromiseTest {
     }
 
     private void candidates() {
-        BigInteger c = firstCandidate(PRIME_THAT_LEAVES_1_BY_E);
+        BigInteger c = Houses.firstCandidate(PRIME_THAT_LEAVES_1_BY_E);
         checks.holds("a prime", c.isProbablePrime(40));
         same("that leaves 1 by e", c.mod(E), ONE);
         due("it counts as undivided", afterOneCandidate(PRIME_THAT_LEAVES_1_BY_E).count(4), 1);
-        SignHouse x = withKey(31, 8, PRIME_THAT_LEAVES_1_BY_E);
-        checks.holds("it is not p", !keyNumber(x, 2).equals(c));
-        checks.holds("it is not q", !keyNumber(x, 3).equals(c));
+        SignHouse x = Houses.withKey(31, 8, PRIME_THAT_LEAVES_1_BY_E);
+        checks.holds("it is not p", !Houses.keyNumber(x, 2).equals(c));
+        checks.holds("it is not q", !Houses.keyNumber(x, 3).equals(c));
 
-        due("251", Model.leastOddDivisor(firstCandidate(DIVIDED_BY_251_AND_NONE_BELOW), 300), 251);
+        due("251", Model.leastOddDivisor(Houses.firstCandidate(DIVIDED_BY_251_AND_NONE_BELOW), 300), 251);
         due("251 divides", afterOneCandidate(DIVIDED_BY_251_AND_NONE_BELOW).count(4), 0);
-        due("257", Model.leastOddDivisor(firstCandidate(DIVIDED_BY_257_AND_NONE_BELOW), 300), 257);
+        due("257", Model.leastOddDivisor(Houses.firstCandidate(DIVIDED_BY_257_AND_NONE_BELOW), 300), 257);
         due("257 is not below 256", afterOneCandidate(DIVIDED_BY_257_AND_NONE_BELOW).count(4), 1);
         checks.holds("257 p is not good", !isPartOfKey(DIVIDED_BY_257_AND_NONE_BELOW));
 
-        checks.holds("a prime", firstCandidate(PRIME).isProbablePrime(40));
+        checks.holds("a prime", Houses.firstCandidate(PRIME).isProbablePrime(40));
         due("a prime is undivided", afterOneCandidate(PRIME).count(4), 1);
         checks.holds("a prime is good", isPartOfKey(PRIME));
 
-        BigInteger high = firstCandidate(PRIME_ABOVE_A_MULTIPLE_OF_4096);
+        BigInteger high = Houses.firstCandidate(PRIME_ABOVE_A_MULTIPLE_OF_4096);
         due("s", high.subtract(ONE).getLowestSetBit(), 12);
         checks.holds("it is good by its later squares", isPartOfKey(PRIME_ABOVE_A_MULTIPLE_OF_4096));
     }
 
     private boolean isPartOfKey(int word) {
-        SignHouse x = withKey(31, 8, word);
-        BigInteger c = firstCandidate(word);
-        return keyNumber(x, 2).equals(c) || keyNumber(x, 3).equals(c);
+        SignHouse x = Houses.withKey(31, 8, word);
+        BigInteger c = Houses.firstCandidate(word);
+        return Houses.keyNumber(x, 2).equals(c) || Houses.keyNumber(x, 3).equals(c);
     }
 
     /** The same candidates come, however the search is cut into calls. */
     private void searchesInParts() {
         for (int step = 1; step <= 60; step += 7) {
-            SignHouse whole = withKey(37, 2, step);
+            SignHouse whole = Houses.withKey(37, 2, step);
             SignHouse parts = new SignHouse(37, 2);
             parts.seed(step);
             for (int i = 0; i < 500 && parts.search(step) == 0; i++) {
@@ -268,17 +210,17 @@ final class PromiseTest {
         due("no words", x.count(2), 0);
         due("no search without them", x.search(5), NO);
         x.seed(7);
-        findKey(x);
-        feedText(x, "abc");
+        Houses.findKey(x);
+        Houses.feedText(x, "abc");
         x.sign();
         x.verify();
-        BigInteger before = registerOf(x);
+        BigInteger before = Houses.registerOf(x);
         due("forget a key", x.forget(), 105);
         int[] counts = {31, 1, 0, 0, 0, 3, 1, 1};
         for (int what = 0; what < counts.length; what++) {
             due("forgotten: count " + what, x.count(what), counts[what]);
         }
-        same("the register stays", registerOf(x), before);
+        same("the register stays", Houses.registerOf(x), before);
         due("the hash stays", x.hash(0), 0xba);
         due("no key", x.key(0, 0), NO);
         due("no sign", x.sign(), NO);
@@ -297,14 +239,14 @@ final class PromiseTest {
         y.search(1);
         due("forget a p", y.forget(), 1);
         y.seed(7);
-        findKey(y);
+        Houses.findKey(y);
         due("p is not left over", y.count(3), 105);
         due("nor bytes of the draw", y.key(2, 0), 242);
     }
 
     private void keys() {
         SignHouse none = new SignHouse(34, 1);
-        SignHouse x = withKey(34, 1, 11);
+        SignHouse x = Houses.withKey(34, 1, 11);
         for (int what = 0; what < 7; what++) {
             int length = what < 2 ? 68 : 34;
             due("no key, " + what + " last", none.key(what, length - 1), NO);
@@ -326,7 +268,7 @@ final class PromiseTest {
     }
 
     private void keyHolds(SignHouse x) {
-        BigInteger n = keyNumber(x, 0), d = keyNumber(x, 1), p = keyNumber(x, 2), q = keyNumber(x, 3);
+        BigInteger n = Houses.keyNumber(x, 0), d = Houses.keyNumber(x, 1), p = Houses.keyNumber(x, 2), q = Houses.keyNumber(x, 3);
         BigInteger pLess = p.subtract(ONE), qLess = q.subtract(ONE);
         checks.holds("p above q", p.compareTo(q) > 0);
         checks.holds("primes", p.isProbablePrime(40) && q.isProbablePrime(40));
@@ -334,13 +276,13 @@ final class PromiseTest {
         due("two highest bits of q", q.shiftRight(8 * x.count(0) - 2).intValue(), 3);
         same("n", n, p.multiply(q));
         same("d", d, E.modInverse(pLess.multiply(qLess)));
-        same("dP", keyNumber(x, 4), E.modInverse(pLess));
-        same("dQ", keyNumber(x, 5), E.modInverse(qLess));
-        same("qI", keyNumber(x, 6), q.modInverse(p));
+        same("dP", Houses.keyNumber(x, 4), E.modInverse(pLess));
+        same("dQ", Houses.keyNumber(x, 5), E.modInverse(qLess));
+        same("qI", Houses.keyNumber(x, 6), q.modInverse(p));
     }
 
     private void counts() {
-        SignHouse x = withKey(40, 5, 3);
+        SignHouse x = Houses.withKey(40, 5, 3);
         int[] wrong = {LEAST, -1, 8, 9, MOST};
         for (int what : wrong) {
             due("count " + what, x.count(what), BAD);
@@ -351,7 +293,7 @@ final class PromiseTest {
         x.verify();
         x.set(79, x.get(79) ^ 1);
         due("a wrong signature", x.verify(), 0);
-        putRegister(x, keyNumber(x, 0));
+        Houses.putRegister(x, Houses.keyNumber(x, 0));
         due("one that is not below n", x.verify(), 0);
         int examined = x.count(3);
         checks.holds("undivided among the examined", x.count(4) >= 2 && x.count(4) < examined);
@@ -374,7 +316,7 @@ final class PromiseTest {
         }
         due("the highest first", x.feed(0x6162636465666768L, 8), 8);
         SignHouse y = new SignHouse(31, 1);
-        feedText(y, "abcdefgh");
+        Houses.feedText(y, "abcdefgh");
         sameHash("8 at once as one by one", x, y);
         x.feed(0xFFFFFF6162L, 2);
         y.feed('a', 1);
@@ -405,7 +347,7 @@ final class PromiseTest {
         SignHouse x = new SignHouse(31, 1);
         due("cut 0 of nothing", x.cut(0), 0);
         due("cut 1 of nothing", x.cut(1), BAD);
-        feedText(x, "abcdef");
+        Houses.feedText(x, "abcdef");
         int[] wrong = {LEAST, -1, 7, MOST};
         for (int n : wrong) {
             due("cut " + n, x.cut(n), BAD);
@@ -419,7 +361,7 @@ final class PromiseTest {
         due("cut 4 of 3", x.cut(4), BAD);
         due("cut 0", x.cut(0), 3);
         due("an empty message", x.hash(0), 0xe3);
-        feedText(x, "abc");
+        Houses.feedText(x, "abc");
         due("abc again", x.hash(31), 0xad);
     }
 
@@ -453,11 +395,11 @@ final class PromiseTest {
                     due("encoded " + i + " of " + size, x.encoded(i), want[i] & 255);
                     due("register " + i + " of " + size, x.get(i), want[i] & 255);
                 }
-                feedText(x, "abc");
+                Houses.feedText(x, "abc");
                 model.feed(0x616263, 3);
-                BigInteger before = registerOf(x);
+                BigInteger before = Houses.registerOf(x);
                 x.encoded(5);
-                same("encoded alone leaves the register", registerOf(x), before);
+                same("encoded alone leaves the register", Houses.registerOf(x), before);
                 x.encode();
             }
             int[] wrong = {LEAST, -1, size, size + 1, MOST};
@@ -477,13 +419,13 @@ final class PromiseTest {
         due("sign without a key", x.sign(), NO);
         due("register as it was", x.get(71), 0);
         x.seed(99);
-        findKey(x);
-        BigInteger n = keyNumber(x, 0);
-        BigInteger d = keyNumber(x, 1);
+        Houses.findKey(x);
+        BigInteger n = Houses.keyNumber(x, 0);
+        BigInteger d = Houses.keyNumber(x, 1);
         for (int i = 0; i < 30; i++) {
             x.feed(i * 0x123456789L, 7);
             due("sign", x.sign(), 1);
-            same("signature", registerOf(x), encodedOf(x).modPow(d, n));
+            same("signature", Houses.registerOf(x), Houses.encodedOf(x).modPow(d, n));
             due("it is verified", x.verify(), 1);
         }
         due("signed", x.count(6), 30);
@@ -493,13 +435,13 @@ final class PromiseTest {
         SignHouse x = new SignHouse(31, 1);
         due("verify without a key", x.verify(), NO);
         x.seed(7);
-        findKey(x);
-        feedText(x, "abc");
+        Houses.findKey(x);
+        Houses.feedText(x, "abc");
         due("nothing signed", x.verify(), 0);
         x.sign();
-        BigInteger signature = registerOf(x);
+        BigInteger signature = Houses.registerOf(x);
         due("signed", x.verify(), 1);
-        same("verify leaves the register", registerOf(x), signature);
+        same("verify leaves the register", Houses.registerOf(x), signature);
         x.feed('d', 1);
         due("another message", x.verify(), 0);
         x.cut(3);
@@ -508,7 +450,7 @@ final class PromiseTest {
         due("another register", x.verify(), 0);
         SignHouse low = withLowSignature();
         due("a low signature", low.verify(), 1);
-        putRegister(low, registerOf(low).add(keyNumber(low, 0)));
+        Houses.putRegister(low, Houses.registerOf(low).add(Houses.keyNumber(low, 0)));
         due("with n added", low.verify(), 0);
         x.forget();
         due("forgotten", x.verify(), NO);
@@ -516,9 +458,9 @@ final class PromiseTest {
 
     /** Signs messages until there is room for n above the signature in the register. */
     private static SignHouse withLowSignature() {
-        SignHouse x = withKey(31, 1, 7);
+        SignHouse x = Houses.withKey(31, 1, 7);
         x.sign();
-        while (x.count(5) < 300 && registerOf(x).add(keyNumber(x, 0)).bitLength() > 496) {
+        while (x.count(5) < 300 && Houses.registerOf(x).add(Houses.keyNumber(x, 0)).bitLength() > 496) {
             x.feed(1, 1);
             x.sign();
         }
@@ -530,30 +472,30 @@ final class PromiseTest {
         due("power without a key", x.power(true), NO);
         due("power without a key", x.power(false), NO);
         x.seed(7);
-        findKey(x);
-        BigInteger n = keyNumber(x, 0);
-        BigInteger d = keyNumber(x, 1);
+        Houses.findKey(x);
+        BigInteger n = Houses.keyNumber(x, 0);
+        BigInteger d = Houses.keyNumber(x, 1);
         BigInteger[] numbers = {
-            BigInteger.ZERO, ONE, BigInteger.TWO, keyNumber(x, 2), keyNumber(x, 3),
+            BigInteger.ZERO, ONE, BigInteger.TWO, Houses.keyNumber(x, 2), Houses.keyNumber(x, 3),
             n.subtract(ONE), n.subtract(BigInteger.TWO), ONE.shiftLeft(495), ONE.shiftLeft(495).subtract(ONE),
             ONE.shiftLeft(256).subtract(ONE).shiftLeft(128)
         };
         for (BigInteger number : numbers) {
-            putRegister(x, number);
+            Houses.putRegister(x, number);
             due("power", x.power(true), 1);
-            same("by e", registerOf(x), number.modPow(E, n));
-            putRegister(x, number);
+            same("by e", Houses.registerOf(x), number.modPow(E, n));
+            Houses.putRegister(x, number);
             due("power", x.power(false), 1);
-            same("by d", registerOf(x), number.modPow(d, n));
+            same("by d", Houses.registerOf(x), number.modPow(d, n));
             due("power", x.power(true), 1);
-            same("by d and e", registerOf(x), number);
+            same("by d and e", Houses.registerOf(x), number);
         }
         BigInteger[] tooHigh = {n, n.add(ONE), ONE.shiftLeft(496).subtract(ONE)};
         for (BigInteger number : tooHigh) {
-            putRegister(x, number);
+            Houses.putRegister(x, number);
             due("power of too much", x.power(true), NO);
             due("power of too much", x.power(false), NO);
-            same("it stays", registerOf(x), number);
+            same("it stays", Houses.registerOf(x), number);
         }
         due("powers are no signatures", x.count(6) + x.count(7), 0);
     }
@@ -626,11 +568,11 @@ final class PromiseTest {
     private void manyKeys() {
         for (int half = 31; half <= 40; half++) {
             for (int word = 0; word < 12; word++) {
-                SignHouse x = withKey(half, 1 + word % 8, word * 0x9E3779B9);
+                SignHouse x = Houses.withKey(half, 1 + word % 8, word * 0x9E3779B9);
                 keyHolds(x);
                 x.feed(word, 4);
                 x.sign();
-                same("signature", registerOf(x), encodedOf(x).modPow(keyNumber(x, 1), keyNumber(x, 0)));
+                same("signature", Houses.registerOf(x), Houses.encodedOf(x).modPow(Houses.keyNumber(x, 1), Houses.keyNumber(x, 0)));
                 due("verified", x.verify(), 1);
             }
         }
