@@ -355,13 +355,14 @@ final class KeyBoundaryTest {
 
     /** "n (1 .. 60)", "BAD" */
     private void fromOneToSixty() {
-        SignHouse x = Houses.seeded(31, 1, 7);
         int[] wrong = {LEAST, -60, -1, 0, 61, 62, 256 + 1, 65536 + 1, MOST};
         for (int n : wrong) {
-            String before = Houses.stateOf(x);
-            due("search " + n, x.search(n), BAD);
-            unchanged("search " + n, x, before);
+            SignHouse y = Houses.seeded(31, 1, 7);
+            String before = Houses.stateOf(y);
+            due("search " + n, y.search(n), BAD);
+            unchanged("search " + n, y, before);
         }
+        SignHouse x = Houses.seeded(31, 1, 7);
         due("search 1", x.search(1), 0);
         due("one was examined", x.count(3), 1);
     }

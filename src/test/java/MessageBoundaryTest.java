@@ -71,13 +71,14 @@ final class MessageBoundaryTest {
 
     /** "BAD: n is not 1 .. 8" */
     private void fromOneToEight() {
-        SignHouse x = ofBytes(3);
         int[] wrong = {LEAST, -8, -1, 0, 9, 10, 16, 256 + 1, 65536 + 1, MOST};
         for (int n : wrong) {
-            String before = Houses.stateOf(x);
-            due("feed of " + n, x.feed(-1, n), BAD);
-            unchanged("feed of " + n, x, before);
+            SignHouse y = ofBytes(3);
+            String before = Houses.stateOf(y);
+            due("feed of " + n, y.feed(-1, n), BAD);
+            unchanged("feed of " + n, y, before);
         }
+        SignHouse x = ofBytes(3);
         int bytes = 3;
         for (int n = 1; n <= 8; n++) {
             bytes += n;
@@ -172,13 +173,14 @@ final class MessageBoundaryTest {
 
     /** "how many went. BAD: n is below 0, or it has not so many." */
     private void fromNoneToAll() {
-        SignHouse x = ofBytes(9);
         int[] wrong = {LEAST, -9, -1, 10, 11, 300, MOST};
         for (int n : wrong) {
-            String before = Houses.stateOf(x);
-            due("cut " + n + " of 9", x.cut(n), BAD);
-            unchanged("cut " + n + " of 9", x, before);
+            SignHouse y = ofBytes(9);
+            String before = Houses.stateOf(y);
+            due("cut " + n + " of 9", y.cut(n), BAD);
+            unchanged("cut " + n + " of 9", y, before);
         }
+        SignHouse x = ofBytes(9);
         due("all stay", x.cut(9), 0);
         isMessage("all stay", x, many(9));
         due("one goes", x.cut(8), 1);

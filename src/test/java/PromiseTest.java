@@ -246,8 +246,8 @@ final class PromiseTest {
 
     private void keys() {
         SignHouse none = new SignHouse(34, 1);
-        SignHouse x = Houses.withKey(34, 1, 11);
         for (int what = 0; what < 7; what++) {
+            SignHouse x = Houses.withKey(34, 1, 11);
             int length = what < 2 ? 68 : 34;
             due("no key, " + what + " last", none.key(what, length - 1), NO);
             due("no key, " + what + " one more", none.key(what, length), BAD);
@@ -261,10 +261,10 @@ final class PromiseTest {
         }
         int[] wrong = {LEAST, -1, 7, 8, MOST};
         for (int what : wrong) {
-            due("key " + what, x.key(what, 0), BAD);
+            due("key " + what, Houses.withKey(34, 1, 11).key(what, 0), BAD);
             due("no key, " + what, none.key(what, 0), BAD);
         }
-        keyHolds(x);
+        keyHolds(Houses.withKey(34, 1, 11));
     }
 
     private void keyHolds(SignHouse x) {
@@ -371,41 +371,37 @@ final class PromiseTest {
         for (int i : wrong) {
             due("hash " + i, x.hash(i), BAD);
         }
-        byte[] fed = {};
+        byte[] fed = new byte[300];
+        for (int i = 0; i < 300; i++) {
+            fed[i] = (byte) (i * 151);
+        }
         for (int length = 0; length <= 300; length++) {
-            byte[] want = Model.sha256(fed);
-            for (int i = 0; i < 32; i++) {
-                due("hash of " + length + " bytes, " + i, x.hash(i), want[i] & 255);
+            SignHouse y = new SignHouse(31, 1);
+            for (int i = 0; i < length; i++) {
+                y.feed(fed[i], 1);
             }
-            x.feed(length * 151, 1);
-            fed = Arrays.copyOf(fed, length + 1);
-            fed[length] = (byte) (length * 151);
+            byte[] want = Model.sha256(Arrays.copyOf(fed, length));
+            for (int i = 0; i < 32; i++) {
+                due("hash of " + length + " bytes, " + i, y.hash(i), want[i] & 255);
+            }
         }
     }
 
     private void encodes() {
         for (int half = 31; half <= 40; half++) {
+            encodesText(half, "");
+            encodesText(half, "abc");
             SignHouse x = new SignHouse(half, 1);
             int size = 2 * half;
-            due("encode", x.encode(), 1);
-            Model model = new Model(half, 1);
-            for (int round = 0; round < 2; round++) {
-                byte[] want = model.encodedBytes();
-                for (int i = 0; i < size; i++) {
-                    due("encoded " + i + " of " + size, x.encoded(i), want[i] & 255);
-                    due("register " + i + " of " + size, x.get(i), want[i] & 255);
-                }
-                Houses.feedText(x, "abc");
-                model.feed(0x616263, 3);
-                BigInteger before = Houses.registerOf(x);
-                x.encoded(5);
-                same("encoded alone leaves the register", Houses.registerOf(x), before);
-                x.encode();
-            }
             int[] wrong = {LEAST, -1, size, size + 1, MOST};
             for (int i : wrong) {
                 due("encoded " + i + " of " + size, x.encoded(i), BAD);
             }
+            x.encode();
+            Houses.feedText(x, "abc");
+            BigInteger before = Houses.registerOf(x);
+            x.encoded(5);
+            same("encoded alone leaves the register", Houses.registerOf(x), before);
         }
         SignHouse x = new SignHouse(31, 1);
         int[] start = {0, 1, 255, 255, 255, 255, 255, 255, 255, 255, 0, 48, 49, 48, 13, 6, 9, 96, 134, 72, 1, 101, 3, 4, 2, 1, 5, 0, 4, 32, 0xe3};
@@ -414,21 +410,39 @@ final class PromiseTest {
         }
     }
 
+    private void encodesText(int half, String text) {
+        SignHouse x = new SignHouse(half, 1);
+        Model model = new Model(half, 1);
+        Houses.feedText(x, text);
+        for (char c : text.toCharArray()) {
+            model.feed(c, 1);
+        }
+        due("encode", x.encode(), 1);
+        byte[] want = model.encodedBytes();
+        for (int i = 0; i < want.length; i++) {
+            due("encoded " + i + " of " + want.length, x.encoded(i), want[i] & 255);
+            due("register " + i + " of " + want.length, x.get(i), want[i] & 255);
+        }
+    }
+
     private void signs() {
         SignHouse x = new SignHouse(36, 2);
         due("sign without a key", x.sign(), NO);
         due("register as it was", x.get(71), 0);
-        x.seed(99);
-        Houses.findKey(x);
-        BigInteger n = Houses.keyNumber(x, 0);
-        BigInteger d = Houses.keyNumber(x, 1);
         for (int i = 0; i < 30; i++) {
-            x.feed(i * 0x123456789L, 7);
-            due("sign", x.sign(), 1);
-            same("signature", Houses.registerOf(x), Houses.encodedOf(x).modPow(d, n));
-            due("it is verified", x.verify(), 1);
+            SignHouse y = Houses.withKey(36, 2, 99);
+            y.feed(i * 0x123456789L, 7);
+            due("sign", y.sign(), 1);
+            BigInteger n = Houses.keyNumber(y, 0);
+            BigInteger d = Houses.keyNumber(y, 1);
+            same("signature", Houses.registerOf(y), Houses.encodedOf(y).modPow(d, n));
+            due("it is verified", y.verify(), 1);
         }
-        due("signed", x.count(6), 30);
+        SignHouse z = Houses.withKey(36, 2, 99);
+        for (int i = 0; i < 30; i++) {
+            due("sign", z.sign(), 1);
+        }
+        due("signed", z.count(6), 30);
     }
 
     private void verifies() {
@@ -481,22 +495,28 @@ final class PromiseTest {
             ONE.shiftLeft(256).subtract(ONE).shiftLeft(128)
         };
         for (BigInteger number : numbers) {
-            Houses.putRegister(x, number);
-            due("power", x.power(true), 1);
-            same("by e", Houses.registerOf(x), number.modPow(E, n));
-            Houses.putRegister(x, number);
-            due("power", x.power(false), 1);
-            same("by d", Houses.registerOf(x), number.modPow(d, n));
-            due("power", x.power(true), 1);
-            same("by d and e", Houses.registerOf(x), number);
+            powersOf(number, n, d);
         }
         BigInteger[] tooHigh = {n, n.add(ONE), ONE.shiftLeft(496).subtract(ONE)};
         for (BigInteger number : tooHigh) {
-            Houses.putRegister(x, number);
-            due("power of too much", x.power(true), NO);
-            due("power of too much", x.power(false), NO);
-            same("it stays", Houses.registerOf(x), number);
+            SignHouse y = Houses.withKey(31, 1, 7);
+            Houses.putRegister(y, number);
+            due("power of too much", y.power(true), NO);
+            due("power of too much", y.power(false), NO);
+            same("it stays", Houses.registerOf(y), number);
         }
+    }
+
+    private void powersOf(BigInteger number, BigInteger n, BigInteger d) {
+        SignHouse x = Houses.withKey(31, 1, 7);
+        Houses.putRegister(x, number);
+        due("power", x.power(true), 1);
+        same("by e", Houses.registerOf(x), number.modPow(E, n));
+        Houses.putRegister(x, number);
+        due("power", x.power(false), 1);
+        same("by d", Houses.registerOf(x), number.modPow(d, n));
+        due("power", x.power(true), 1);
+        same("by d and e", Houses.registerOf(x), number);
         due("powers are no signatures", x.count(6) + x.count(7), 0);
     }
 
@@ -568,8 +588,8 @@ final class PromiseTest {
     private void manyKeys() {
         for (int half = 31; half <= 40; half++) {
             for (int word = 0; word < 12; word++) {
+                keyHolds(Houses.withKey(half, 1 + word % 8, word * 0x9E3779B9));
                 SignHouse x = Houses.withKey(half, 1 + word % 8, word * 0x9E3779B9);
-                keyHolds(x);
                 x.feed(word, 4);
                 x.sign();
                 same("signature", Houses.registerOf(x), Houses.encodedOf(x).modPow(Houses.keyNumber(x, 1), Houses.keyNumber(x, 0)));

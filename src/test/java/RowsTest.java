@@ -2,6 +2,7 @@ import java.lang.reflect.Constructor;
 import java.lang.reflect.Field;
 import java.lang.reflect.Method;
 import java.math.BigInteger;
+import java.util.Arrays;
 import java.util.Random;
 
 /**
@@ -28,6 +29,9 @@ final class RowsTest {
                 test.modulus(width);
                 test.inverseOfE(Math.max(8, width));
             }
+        }
+        for (int width = 2; width <= 20; width++) {
+            test.greatestRows(width);
         }
         test.productsThatVanish();
         test.goodNumbers();
@@ -139,6 +143,24 @@ final class RowsTest {
         BigInteger want = e.modInverse(number(by));
         if (number(by).signum() > 0) {
             same("inverse", to, want);
+        }
+    }
+
+    /** Only by moduli of nearly all 1 does a sum run over into the limb above the highest but one. */
+    private void greatestRows(int width) throws Exception {
+        long[] m = new long[width];
+        Arrays.fill(m, 0xFFFFFFFFL);
+        Object modulus = make("Modulus", width);
+        call("Modulus", modulus, "choose", (Object) m);
+        for (int less = 1; less <= 9; less++) {
+            long[] a = m.clone();
+            a[0] -= less;
+            long[] to = row(width);
+            call("Modulus", modulus, "times", to, a, a);
+            same("product of the greatest", to, BigInteger.valueOf(less * less));
+            long[] third = {3};
+            call("Modulus", modulus, "raise", to, a, third);
+            same("power of the greatest", to, number(m).subtract(BigInteger.valueOf(less * less * less)));
         }
     }
 

@@ -169,7 +169,7 @@ final class RulesTest {
         SignHouse x = new SignHouse(40, 8);
         com.sun.management.ThreadMXBean threads =
             (com.sun.management.ThreadMXBean) java.lang.management.ManagementFactory.getThreadMXBean();
-        everyCall(x);
+        everyCall(new SignHouse(40, 8));
         long before = threads.getCurrentThreadAllocatedBytes();
         everyCall(x);
         long made = threads.getCurrentThreadAllocatedBytes() - before;

@@ -445,7 +445,8 @@ final class SignatureBoundaryTest {
 
     private static long digestOfRegister(SignHouse x) {
         long h = 37;
-        for (int i = 0; i < 2 * x.count(0); i++) {
+        int size = 2 * x.count(0);
+        for (int i = 0; i < size; i++) {
             h = more(h, x.get(i));
         }
         return h;
