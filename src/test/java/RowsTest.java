@@ -36,6 +36,7 @@ final class RowsTest {
         test.productsThatVanish();
         test.goodNumbers();
         test.sameNumberTwice();
+        test.keysOfFalsePrimes();
         test.checks.end("RowsTest");
     }
 
@@ -192,15 +193,25 @@ final class RowsTest {
         System.arraycopy(value, 0, (long[]) f.get(hunt), 0, value.length);
     }
 
+    private static void putPrimesFound(Object hunt, int primes) throws Exception {
+        Field found = hunt.getClass().getDeclaredField("primesFound");
+        found.setAccessible(true);
+        found.setInt(hunt, primes);
+    }
+
+    /** The ROUNDS are asked of p and of q alike. */
     private void goodNumbers() throws Exception {
         for (long falsePrime : FALSE_PRIMES) {
             BigInteger c = BigInteger.valueOf(falsePrime);
             checks.holds(c + " is no prime", !c.isProbablePrime(40));
             for (int rounds = 1; rounds <= 8; rounds++) {
-                Object hunt = hunt(rounds);
-                put(hunt, "candidate", new long[] {falsePrime & 0xFFFFFFFFL, falsePrime >>> 32});
-                boolean good = (Boolean) call("Hunt", hunt, "isGood");
-                checks.holds(c + " by " + rounds + " rounds", good == Model.passes(c, rounds));
+                for (int found = 0; found <= 1; found++) {
+                    Object hunt = hunt(rounds);
+                    put(hunt, "candidate", new long[] {falsePrime & 0xFFFFFFFFL, falsePrime >>> 32});
+                    putPrimesFound(hunt, found);
+                    boolean good = (Boolean) call("Hunt", hunt, "isGood");
+                    checks.holds(c + " by " + rounds + " rounds", good == Model.passes(c, rounds));
+                }
             }
         }
     }
@@ -211,9 +222,55 @@ final class RowsTest {
         put(hunt, "candidate", prime);
         put(hunt, "first", prime);
         checks.holds("a prime, p not yet found", (Boolean) call("Hunt", hunt, "isGood"));
-        Field found = hunt.getClass().getDeclaredField("primesFound");
-        found.setAccessible(true);
-        found.setInt(hunt, 1);
+        putPrimesFound(hunt, 1);
         checks.holds("p once more", !(Boolean) call("Hunt", hunt, "isGood"));
+    }
+
+    private static long[] rowOf(BigInteger number, int width) {
+        long[] row = new long[width];
+        for (int i = 0; i < width; i++) {
+            row[i] = number.shiftRight(32 * i).longValue() & 0xFFFFFFFFL;
+        }
+        return row;
+    }
+
+    /** "qI, what q^(p - 2) leaves by p", "m2 + h q": as told, also where p is no prime and they do not invert. */
+    private void keysOfFalsePrimes() throws Exception {
+        int keys = 0;
+        for (long one : FALSE_PRIMES) {
+            for (long other : FALSE_PRIMES) {
+                if (one != other && one % 65537 != 1 && other % 65537 != 1) {
+                    keyOf(BigInteger.valueOf(one), BigInteger.valueOf(other));
+                    keys++;
+                }
+            }
+        }
+        checks.holds("keys of false primes", keys > 100);
+    }
+
+    private void keyOf(BigInteger first, BigInteger second) throws Exception {
+        BigInteger p = first.max(second), q = first.min(second), e = BigInteger.valueOf(65537), n = p.multiply(q);
+        BigInteger pLess = p.subtract(BigInteger.ONE), qLess = q.subtract(BigInteger.ONE);
+        BigInteger[] parts = {
+            n, e.modInverse(pLess.multiply(qLess)), p, q, e.modInverse(pLess), e.modInverse(qLess),
+            q.modPow(p.subtract(BigInteger.TWO), p)
+        };
+        Object keyRows = make("KeyRows", 2);
+        call("KeyRows", keyRows, "make", rowOf(first, 2), rowOf(second, 2));
+        for (int part = 0; part < parts.length; part++) {
+            same("key " + part + " of " + p + ", " + q, (long[]) call("KeyRows", keyRows, "part", part), parts[part]);
+        }
+        for (int i = 0; i < 5; i++) {
+            BigInteger m = number(row(4)).mod(n);
+            BigInteger m1 = m.modPow(parts[4], p), m2 = m.modPow(parts[5], q);
+            BigInteger h = parts[6].multiply(m1.subtract(m2)).mod(p);
+            long[] to = row(4);
+            call("KeyRows", keyRows, "makeSignature", to, rowOf(m, 4));
+            same("signature by " + p + ", " + q, to, m2.add(h.multiply(q)));
+            call("KeyRows", keyRows, "raisePublic", to, rowOf(m, 4));
+            same("power by e, of " + p + ", " + q, to, m.modPow(e, n));
+            call("KeyRows", keyRows, "raisePrivate", to, rowOf(m, 4));
+            same("power by d, of " + p + ", " + q, to, m.modPow(parts[1], n));
+        }
     }
 }
