@@ -1,16 +1,11 @@
-import java.io.ByteArrayOutputStream;
+import java.io.File;
 import java.io.IOException;
-import java.io.PrintStream;
-import java.net.URL;
-import java.net.URLClassLoader;
 import java.nio.charset.StandardCharsets;
 import java.nio.file.DirectoryStream;
 import java.nio.file.Files;
 import java.nio.file.Path;
 import java.util.regex.Matcher;
 import java.util.regex.Pattern;
-import javax.tools.JavaCompiler;
-import javax.tools.ToolProvider;
 
 /** README.md: it tells of the whole face and of every test; its example compiles and does what it says. */
 final class ReadmeTest {
@@ -64,32 +59,23 @@ final class ReadmeTest {
         Path out = Files.createTempDirectory("readme");
         Path source = out.resolve("Example.java");
         Files.writeString(source, block("java"));
-        JavaCompiler compiler = ToolProvider.getSystemJavaCompiler();
-        String classes = System.getProperty("java.class.path");
-        checks.due("javac of the example", compiler.run(null, null, null,
-            "-encoding", "UTF-8", "-cp", classes, "-d", out.toString(), source.toString()), 0);
+        String classes = System.getProperty("java.class.path") + File.pathSeparator + out;
+        String compiled = printedBy("javac", "-encoding", "UTF-8", "-cp", classes, "-d", out.toString(), source.toString());
+        checks.holds("javac of the example: " + compiled, compiled.isEmpty());
+        String printed = printedBy("java", "-cp", classes, "Example");
         String told = block("text");
-        String printed = printedBy(out);
         checks.holds("the example prints\n" + printed + "and README.md tells\n" + told, printed.equals(told));
-        checks.holds("it prints something", printed.length() > 0);
+        checks.holds("it prints something", !printed.isEmpty());
         Files.delete(source);
         Files.deleteIfExists(out.resolve("Example.class"));
         Files.delete(out);
     }
 
-    /** What the class Example in this directory prints; nothing if it is not there. */
-    private static String printedBy(Path directory) throws Exception {
-        if (!Files.exists(directory.resolve("Example.class"))) {
-            return "";
-        }
-        PrintStream before = System.out;
-        ByteArrayOutputStream bytes = new ByteArrayOutputStream();
-        try (URLClassLoader loader = new URLClassLoader(new URL[] {directory.toUri().toURL()})) {
-            System.setOut(new PrintStream(bytes, true, StandardCharsets.UTF_8));
-            loader.loadClass("Example").getMethod("main", String[].class).invoke(null, (Object) new String[0]);
-        } finally {
-            System.setOut(before);
-        }
-        return bytes.toString(StandardCharsets.UTF_8).replace("\r\n", "\n");
+    /** What the command prints, and its exit code if that is not 0; what it complains of goes where ours goes. */
+    private static String printedBy(String... command) throws Exception {
+        Process process = new ProcessBuilder(command).redirectError(ProcessBuilder.Redirect.INHERIT).start();
+        String printed = new String(process.getInputStream().readAllBytes(), StandardCharsets.UTF_8);
+        int exit = process.waitFor();
+        return printed.replace("\r\n", "\n") + (exit == 0 ? "" : "exit code " + exit + "\n");
     }
 }
