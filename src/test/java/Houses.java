@@ -26,11 +26,16 @@ final class Houses {
         }
     }
 
-    static Model modelWithKey(int half, int rounds, int... words) {
+    static Model seededModel(int half, int rounds, int... words) {
         Model model = new Model(half, rounds);
         for (int word : words) {
             model.seed(word);
         }
+        return model;
+    }
+
+    static Model modelWithKey(int half, int rounds, int... words) {
+        Model model = seededModel(half, rounds, words);
         int found = 0;
         while (found == 0) {
             found = model.search(60);
@@ -40,9 +45,7 @@ final class Houses {
 
     /** The first candidate that the seed of this one word draws for a HALF of 31. */
     static BigInteger firstCandidate(int word) {
-        Model model = new Model(31, 8);
-        model.seed(word);
-        return model.nextCandidate();
+        return seededModel(31, 8, word).nextCandidate();
     }
 
     static BigInteger keyNumber(SignHouse x, int what) {

@@ -15,8 +15,14 @@ final class KeyBoundaryTest {
     private static final int GOOD_OF_BYTES_249_TO_127 = 240;
     private static final int DIVIDED_BY_3_ALONE = 35, DIVIDED_BY_251_ALONE = 2177, DIVIDED_BY_257 = 657;
 
-    /** Words with a prime that leaves 1 by 65537: which candidate it is, and how many are good before it. */
-    private static final int[][] PRIME_THAT_LEAVES_1_BY_E = {{9773, 12, 0}, {324888, 22, 1}};
+    /** HALF, ROUNDS, a seed, which of its candidates is a prime that leaves 1 by 65537, how many are good before it. */
+    private record LeavesOne(int half, int rounds, int[] seed, int number, int goodBefore) {
+    }
+
+    private static final LeavesOne[] LEAVE_ONE = {
+        new LeavesOne(31, 8, new int[] {9773}, 12, 0), new LeavesOne(31, 8, new int[] {324888}, 22, 1),
+        new LeavesOne(40, 1, new int[] {342391, -342391}, 152, 0), new LeavesOne(40, 1, new int[] {335317, -335317}, 104, 1)
+    };
 
     /** By what key() numbers: words whose d, dP, dQ, qI begins with a byte of 0; the others can't. */
     private static final int[] HIGHEST_BYTE_0 = {-1, 41, -1, -1, 89, 235, 154};
@@ -476,36 +482,32 @@ final class KeyBoundaryTest {
 
     /** "it leaves not 1 by 65537": a prime that does becomes neither p nor, behind p, q. */
     private void leavesNotOneByE() {
-        for (int[] word : PRIME_THAT_LEAVES_1_BY_E) {
-            BigInteger c = candidate(word[0], word[1]);
+        for (LeavesOne one : LEAVE_ONE) {
+            Model model = Houses.seededModel(one.half, one.rounds, one.seed);
+            int good = 0;
+            for (int i = 1; i < one.number; i++) {
+                good += model.nextCandidate().isProbablePrime(40) ? 1 : 0;
+            }
+            due("good ones before it", good, one.goodBefore);
+            BigInteger c = model.nextCandidate();
             checks.holds("a prime", c.isProbablePrime(40));
             checks.holds("that leaves 1", c.mod(Model.E).equals(BigInteger.ONE));
-            int good = 0;
-            for (int i = 1; i < word[1]; i++) {
-                good += candidate(word[0], i).isProbablePrime(40) ? 1 : 0;
-            }
-            due("good ones before it", good, word[2]);
-            SignHouse x = Houses.seeded(31, 8, word[0]);
-            due("those before it", x.search(word[1] - 1), 0);
-            int undivided = x.count(4);
-            due("it", x.search(1), 0);
-            due("no small prime divides it", x.count(4), undivided + 1);
-            due("no key with it", x.key(0, 0), NO);
-            Houses.findKey(x);
-            checks.holds("not p", !Houses.keyNumber(x, 2).equals(c));
-            checks.holds("not q", !Houses.keyNumber(x, 3).equals(c));
-            sameKey("behind it", x, Houses.modelWithKey(31, 8, word[0]));
+            isNotGood(Houses.seeded(one.half, one.rounds, one.seed), one, c);
         }
     }
 
-    /** The candidate of this number, from 1 on, that the seed of this one word draws for a HALF of 31. */
-    private static BigInteger candidate(int word, int number) {
-        Model model = new Model(31, 8);
-        model.seed(word);
-        for (int i = 1; i < number; i++) {
-            model.nextCandidate();
+    private void isNotGood(SignHouse x, LeavesOne one, BigInteger c) {
+        while (x.count(3) < one.number - 1) {
+            due("those before it", x.search(Math.min(60, one.number - 1 - x.count(3))), 0);
         }
-        return model.nextCandidate();
+        int undivided = x.count(4);
+        due("it", x.search(1), 0);
+        due("no small prime divides it", x.count(4), undivided + 1);
+        due("no key with it", x.key(0, 0), NO);
+        Houses.findKey(x);
+        checks.holds("not p", !Houses.keyNumber(x, 2).equals(c));
+        checks.holds("not q", !Houses.keyNumber(x, 3).equals(c));
+        sameKey("behind it", x, Houses.modelWithKey(one.half, one.rounds, one.seed));
     }
 
     /** "if p is below q then, they are exchanged": they are not. */

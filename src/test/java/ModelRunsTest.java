@@ -26,7 +26,12 @@ final class ModelRunsTest {
         int rounds = run % 7 == 6 ? someInt(20) : 1 + random.nextInt(8);
         house = new SignHouse(half, rounds);
         model = new Model(half, rounds);
-        for (int i = 0; i < CALLS; i++) {
+        at = "run " + run + " (" + half + ", " + rounds + ") ";
+        boolean isLong = run / 10 % 2 == 1;
+        if (isLong) {
+            feedMuch();
+        }
+        for (int i = 0; i < (isLong ? CALLS - 36 : CALLS); i++) {
             at = "run " + run + " (" + half + ", " + rounds + ") call " + i + " ";
             if (run % 3 == 0) {
                 anyCall();
@@ -73,7 +78,7 @@ final class ModelRunsTest {
 
     private void anyCallButForget() {
         int a = someInt(90);
-        int b = someInt(300);
+        int b = someInt(260);
         switch (random.nextInt(16)) {
             case 0: seed(); break;
             case 1: checks.due(at + "search " + a, house.search(a), model.search(a)); break;
@@ -86,7 +91,7 @@ final class ModelRunsTest {
                 checks.due(at + "count " + which, house.count(which), model.count(which));
                 break;
             case 4: case 5: feed(); break;
-            case 6: checks.due(at + "cut " + b, house.cut(b), model.cut(b)); break;
+            case 6: cut(); break;
             case 7: checks.due(at + "hash " + a, house.hash(a), model.hash(a)); break;
             case 8: checks.due(at + "encoded " + a, house.encoded(a), model.encoded(a)); break;
             case 9: checks.due(at + "set " + a + " " + b, house.set(a, b), model.set(a, b)); break;
@@ -112,6 +117,20 @@ final class ModelRunsTest {
         long w = random.nextLong();
         int n = random.nextInt(4) == 0 ? someInt(10) : 1 + random.nextInt(8);
         checks.due(at + "feed " + w + " " + n, house.feed(w, n), model.feed(w, n));
+    }
+
+    /** Mostly a few bytes go, so that messages grow. */
+    private void cut() {
+        int n = random.nextInt(8) == 0 ? someInt(300) : model.message.length - random.nextInt(5);
+        checks.due(at + "cut " + n, house.cut(n), model.cut(n));
+    }
+
+    /** Half of the runs begin with a message of nearly 300 bytes. */
+    private void feedMuch() {
+        for (int i = 0; i < 36; i++) {
+            long w = random.nextLong();
+            checks.due(at + "feed " + w, house.feed(w, 8), model.feed(w, 8));
+        }
     }
 
     private void power(boolean byPublic) {

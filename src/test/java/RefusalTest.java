@@ -10,10 +10,7 @@ import java.util.function.ToLongFunction;
 final class RefusalTest {
     private static final int BAD = -2, NO = -3, FULL = -4;
     private static final int LEAST = Integer.MIN_VALUE, MOST = Integer.MAX_VALUE;
-    private static final int HALF = 31, SIZE = 62;
-
-    // A word whose first candidate is good, and one whose key is the 105th.
-    private static final int FIRST_IS_GOOD = 106, KEY_AT_105 = 7;
+    private static final int SOME_KEY = 7;
 
     /** How far a house has come. */
     private enum Way {
@@ -35,50 +32,81 @@ final class RefusalTest {
     private record Call(String name, ToLongFunction<SignHouse> of, long refusal) {
     }
 
-    private final Checks checks = new Checks();
+    private static final Checks CHECKS = new Checks();
 
-    public static void main(String[] args) {
-        RefusalTest test = new RefusalTest();
-        for (Way way : Way.values()) {
-            for (int bytes : new int[] {0, 293, 300}) {
-                test.refuses(way, bytes, false);
-            }
-            test.refuses(way, 300, true);
-        }
-        test.checks.end("RefusalTest");
+    private final int half;
+    private final int size;
+    private final int rounds;
+
+    /** Of this HALF a word whose first candidate is good. */
+    private final int firstIsGood;
+
+    /** Whether each house had, before all that, a key by which it signed and verified. */
+    private final boolean hasPast;
+
+    private RefusalTest(int half, int rounds, int firstIsGood, boolean hasPast) {
+        this.half = half;
+        this.size = 2 * half;
+        this.rounds = rounds;
+        this.firstIsGood = firstIsGood;
+        this.hasPast = hasPast;
     }
 
-    private static SignHouse house(Way way, int bytes, boolean registerIsHigh) {
-        SignHouse x = new SignHouse(HALF, 8);
-        Houses.feedMany(x, bytes);
-        x.set(SIZE - 1, 2);
-        if (way == Way.WITH_KEY || way == Way.FORGOTTEN || way == Way.BEGUN_ANEW) {
-            x.seed(KEY_AT_105);
-            Houses.findKey(x);
+    public static void main(String[] args) {
+        RefusalTest[] tests = {new RefusalTest(31, 8, 106, false), new RefusalTest(40, 1, 32, true)};
+        for (RefusalTest test : tests) {
+            for (Way way : Way.values()) {
+                for (int bytes : new int[] {0, 293, 300}) {
+                    test.refuses(way, bytes, false);
+                }
+                test.refuses(way, 300, true);
+            }
         }
+        CHECKS.end("RefusalTest");
+    }
+
+    private static void signAndForget(SignHouse x) {
+        x.seed(SOME_KEY);
+        Houses.findKey(x);
+        x.sign();
+        x.verify();
+        x.forget();
+    }
+
+    private SignHouse house(Way way, int bytes, boolean registerIsHigh) {
+        SignHouse x = new SignHouse(half, rounds);
+        if (hasPast) {
+            signAndForget(x);
+        }
+        Houses.feedMany(x, bytes);
+        x.encode();
         if (way == Way.FORGOTTEN || way == Way.BEGUN_ANEW) {
-            x.sign();
-            x.verify();
-            x.forget();
+            signAndForget(x);
         }
         while (x.count(2) < way.words) {
-            x.seed(way == Way.WITH_P ? FIRST_IS_GOOD : x.count(2));
+            x.seed(way == Way.WITH_P ? firstIsGood : SOME_KEY + x.count(2));
+        }
+        if (way.hasKey) {
+            Houses.findKey(x);
         }
         if (way.begun && !way.hasKey) {
             x.search(1);
         }
         if (registerIsHigh) {
-            BigInteger most = BigInteger.ONE.shiftLeft(8 * SIZE).subtract(BigInteger.ONE);
+            BigInteger most = BigInteger.ONE.shiftLeft(8 * size).subtract(BigInteger.ONE);
             Houses.putRegister(x, way.hasKey ? Houses.keyNumber(x, 0) : most);
         }
         return x;
     }
 
     private void isAsTold(String at, Way way, int bytes, SignHouse x) {
-        checks.due(at + "words", x.count(2), way.words);
-        checks.due(at + "bytes", x.count(5), bytes);
-        checks.holds(at + "begun", x.count(3) > 0 == way.begun);
-        checks.holds(at + "key", x.key(0, 0) >= 0 == way.hasKey);
+        CHECKS.due(at + "words", x.count(2), way.words);
+        CHECKS.due(at + "bytes", x.count(5), bytes);
+        CHECKS.holds(at + "begun", x.count(3) > 0 == way.begun);
+        CHECKS.holds(at + "key", x.key(0, 0) >= 0 == way.hasKey);
+        CHECKS.due(at + "signed", x.count(6), (hasPast ? 1 : 0) + (way == Way.FORGOTTEN || way == Way.BEGUN_ANEW ? 1 : 0));
+        BigInteger first = Houses.seededModel(half, rounds, firstIsGood).nextCandidate();
+        CHECKS.holds("its first candidate is good", first.isProbablePrime(40));
     }
 
     private void refuses(Way way, int bytes, boolean registerIsHigh) {
@@ -100,13 +128,13 @@ final class RefusalTest {
         for (Call call : calls) {
             SignHouse x = house(way, bytes, registerIsHigh);
             String before = Houses.stateOf(x);
-            checks.due(at + call.name, call.of.applyAsLong(x), call.refusal);
-            checks.holds(at + call.name + " changes nothing", Houses.stateOf(x).equals(before));
-            checks.holds(at + call.name + " changes nothing later", story(x).equals(want));
+            CHECKS.due(at + call.name, call.of.applyAsLong(x), call.refusal);
+            CHECKS.holds(at + call.name + " changes nothing", Houses.stateOf(x).equals(before));
+            CHECKS.holds(at + call.name + " changes nothing later", story(x).equals(want));
         }
     }
 
-    private static void addKeyCalls(List<Call> calls, Way way) {
+    private void addKeyCalls(List<Call> calls, Way way) {
         if (way.begun) {
             calls.add(new Call("seed(1)", x -> x.seed(1), NO));
         } else if (way.words == 16) {
@@ -125,7 +153,7 @@ final class RefusalTest {
         }
         for (int what = 0; what < 7; what++) {
             int part = what;
-            int length = what < 2 ? SIZE : HALF;
+            int length = what < 2 ? size : half;
             for (int i : new int[] {LEAST, -1, length, MOST}) {
                 calls.add(new Call("key(" + part + ", " + i + ")", x -> x.key(part, i), BAD));
             }
@@ -140,7 +168,7 @@ final class RefusalTest {
         }
     }
 
-    private static void addMessageCalls(List<Call> calls, int bytes) {
+    private void addMessageCalls(List<Call> calls, int bytes) {
         for (int n : new int[] {LEAST, -1, 0, 9, MOST}) {
             calls.add(new Call("feed(1, " + n + ")", x -> x.feed(1, n), BAD));
         }
@@ -154,20 +182,20 @@ final class RefusalTest {
         for (int i : new int[] {LEAST, -1, 32, MOST}) {
             calls.add(new Call("hash(" + i + ")", x -> x.hash(i), BAD));
         }
-        for (int i : new int[] {LEAST, -1, SIZE, MOST}) {
+        for (int i : new int[] {LEAST, -1, size, MOST}) {
             calls.add(new Call("encoded(" + i + ")", x -> x.encoded(i), BAD));
         }
     }
 
-    private static void addRegisterCalls(List<Call> calls) {
-        for (int i : new int[] {LEAST, -1, SIZE, MOST}) {
+    private void addRegisterCalls(List<Call> calls) {
+        for (int i : new int[] {LEAST, -1, size, MOST}) {
             calls.add(new Call("get(" + i + ")", x -> x.get(i), BAD));
             calls.add(new Call("set(" + i + ", 1)", x -> x.set(i, 1), BAD));
             calls.add(new Call("set(" + i + ", -1)", x -> x.set(i, -1), BAD));
         }
         for (int v : new int[] {LEAST, -1, 256, MOST}) {
             calls.add(new Call("set(0, " + v + ")", x -> x.set(0, v), BAD));
-            calls.add(new Call("set(" + (SIZE - 1) + ", " + v + ")", x -> x.set(SIZE - 1, v), BAD));
+            calls.add(new Call("set(" + (size - 1) + ", " + v + ")", x -> x.set(size - 1, v), BAD));
         }
     }
 

@@ -179,10 +179,10 @@ final class RowsTest {
         }
     }
 
-    private static Object hunt(int rounds) throws Exception {
+    private static Object hunt(int half, int rounds) throws Exception {
         for (Constructor<?> c : Class.forName("SignHouse$Hunt").getDeclaredConstructors()) {
             c.setAccessible(true);
-            return c.newInstance(null, 31, 8, rounds);
+            return c.newInstance(null, half, (half + 3) / 4, rounds);
         }
         throw new IllegalArgumentException("no constructor");
     }
@@ -193,10 +193,10 @@ final class RowsTest {
         System.arraycopy(value, 0, (long[]) f.get(hunt), 0, value.length);
     }
 
-    private static void putPrimesFound(Object hunt, int primes) throws Exception {
-        Field found = hunt.getClass().getDeclaredField("primesFound");
-        found.setAccessible(true);
-        found.setInt(hunt, primes);
+    private static void putNumber(Object hunt, String field, int value) throws Exception {
+        Field f = hunt.getClass().getDeclaredField(field);
+        f.setAccessible(true);
+        f.setInt(hunt, value);
     }
 
     /** The ROUNDS are asked of p and of q alike. */
@@ -206,9 +206,9 @@ final class RowsTest {
             checks.holds(c + " is no prime", !c.isProbablePrime(40));
             for (int rounds = 1; rounds <= 8; rounds++) {
                 for (int found = 0; found <= 1; found++) {
-                    Object hunt = hunt(rounds);
+                    Object hunt = hunt(31, rounds);
                     put(hunt, "candidate", new long[] {falsePrime & 0xFFFFFFFFL, falsePrime >>> 32});
-                    putPrimesFound(hunt, found);
+                    putNumber(hunt, "primesFound", found);
                     boolean good = (Boolean) call("Hunt", hunt, "isGood");
                     checks.holds(c + " by " + rounds + " rounds", good == Model.passes(c, rounds));
                 }
@@ -216,14 +216,21 @@ final class RowsTest {
         }
     }
 
+    /** "it is not p (if that was found)": with every HALF and ROUNDS, soon and late in the search. */
     private void sameNumberTwice() throws Exception {
-        Object hunt = hunt(8);
         long[] prime = {1000003L};
-        put(hunt, "candidate", prime);
-        put(hunt, "first", prime);
-        checks.holds("a prime, p not yet found", (Boolean) call("Hunt", hunt, "isGood"));
-        putPrimesFound(hunt, 1);
-        checks.holds("p once more", !(Boolean) call("Hunt", hunt, "isGood"));
+        for (int half = 31; half <= 40; half++) {
+            for (int rounds = 1; rounds <= 8; rounds++) {
+                Object hunt = hunt(half, rounds);
+                putNumber(hunt, "examined", half * rounds);
+                putNumber(hunt, "undivided", half);
+                put(hunt, "candidate", prime);
+                put(hunt, "first", prime);
+                checks.holds("a prime, p not yet found", (Boolean) call("Hunt", hunt, "isGood"));
+                putNumber(hunt, "primesFound", 1);
+                checks.holds("p once more", !(Boolean) call("Hunt", hunt, "isGood"));
+            }
+        }
     }
 
     private static long[] rowOf(BigInteger number, int width) {

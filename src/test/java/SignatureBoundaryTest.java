@@ -11,7 +11,6 @@ final class SignatureBoundaryTest {
     // Messages of two bytes, found by trying them from 0 on with the key of the seed 7 for a HALF
     // of 31; each test looks whether they are what they say.
     private static final int M1_ABOVE_M2 = 0, M1_BELOW_M2 = 5;
-    private static final int SIGNATURE_WITH_ROOM_FOR_N = 2;
     private static final int HIGHEST_BYTE_0 = 257;
 
     // A word whose first candidate is good, for a HALF of 31.
@@ -199,15 +198,52 @@ final class SignatureBoundaryTest {
 
     /** "THE REGISTER is below n": the signature and n leaves the same by n, and is not below it. */
     private void signatureAndN() {
-        SignHouse x = ofMessage(SIGNATURE_WITH_ROOM_FOR_N);
+        int[][] seeds = {{7}, {7, 8}, {1, 2, 3, 4, 5, 6, 7, 8, 9, 10, 11, 12, 13, 14, 15, 16}};
+        for (int half : HALVES) {
+            for (int[] seed : seeds) {
+                signatureAndN(half, seed.length == 2 ? 8 : 1, seed, 2);
+                signatureAndN(half, seed.length == 2 ? 1 : 8, seed, 300);
+            }
+        }
+    }
+
+    private void signatureAndN(int half, int rounds, int[] seed, int bytes) {
+        int last = withRoomForN(half, rounds, seed, bytes);
+        SignHouse x = Houses.withKey(half, rounds, seed);
+        Houses.feedMany(x, bytes - 2);
+        x.feed(last, 2);
         x.sign();
         BigInteger signature = Houses.registerOf(x);
         BigInteger sum = signature.add(n(x));
         checks.holds("there is room", sum.compareTo(most(x)) <= 0);
-        Houses.putRegister(x, sum);
-        due("the signature and n", x.verify(), 0);
-        Houses.putRegister(x, signature);
-        due("the signature", x.verify(), 1);
+        SignHouse y = Houses.withKey(half, rounds, seed);
+        Houses.feedMany(y, bytes - 2);
+        y.feed(last, 2);
+        Houses.putRegister(y, sum);
+        due("the signature and n, nothing signed", y.verify(), 0);
+        y.sign();
+        Houses.putRegister(y, sum);
+        due("the signature and n", y.verify(), 0);
+        Houses.putRegister(y, signature);
+        due("the signature", y.verify(), 1);
+    }
+
+    /** The last two bytes of a message whose signature and n are together a number of SIZE bytes. */
+    private static int withRoomForN(int half, int rounds, int[] seed, int bytes) {
+        Model model = Houses.modelWithKey(half, rounds, seed);
+        for (int i = 0; i < bytes - 2; i++) {
+            model.feed(0x5A, 1);
+        }
+        BigInteger most = ONE.shiftLeft(16 * half).subtract(ONE);
+        for (int last = 0; last < 200; last++) {
+            model.feed(last, 2);
+            model.sign();
+            if (model.registerNumber().add(model.parts[0]).compareTo(most) <= 0) {
+                return last;
+            }
+            model.cut(bytes - 2);
+        }
+        return 0;
     }
 
     /** "TO VERIFY" changes no register; "(whatever came of it)" it is counted. */
