@@ -222,6 +222,7 @@ final class RowsTest {
         for (int half = 31; half <= 40; half++) {
             for (int rounds = 1; rounds <= 8; rounds++) {
                 Object hunt = hunt(half, rounds);
+                call("Hunt", hunt, "begin");
                 putNumber(hunt, "examined", half * rounds);
                 putNumber(hunt, "undivided", half);
                 put(hunt, "candidate", prime);

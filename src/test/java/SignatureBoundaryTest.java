@@ -204,21 +204,27 @@ final class SignatureBoundaryTest {
                 signatureAndN(half, seed.length == 2 ? 8 : 1, seed, 2);
                 signatureAndN(half, seed.length == 2 ? 1 : 8, seed, 300);
             }
+            notBelowN(Houses.withKey(half, 1, seedWithRoomForN(half)), Houses.withKey(half, 1, seedWithRoomForN(half)));
         }
     }
 
     private void signatureAndN(int half, int rounds, int[] seed, int bytes) {
         int last = withRoomForN(half, rounds, seed, bytes);
-        SignHouse x = Houses.withKey(half, rounds, seed);
-        Houses.feedMany(x, bytes - 2);
-        x.feed(last, 2);
+        SignHouse[] both = new SignHouse[2];
+        for (int i = 0; i < both.length; i++) {
+            both[i] = Houses.withKey(half, rounds, seed);
+            Houses.feedMany(both[i], bytes - 2);
+            both[i].feed(last, 2);
+        }
+        notBelowN(both[0], both[1]);
+    }
+
+    /** The one signs, the other, of the same key and message, is asked. */
+    private void notBelowN(SignHouse x, SignHouse y) {
         x.sign();
         BigInteger signature = Houses.registerOf(x);
         BigInteger sum = signature.add(n(x));
         checks.holds("there is room", sum.compareTo(most(x)) <= 0);
-        SignHouse y = Houses.withKey(half, rounds, seed);
-        Houses.feedMany(y, bytes - 2);
-        y.feed(last, 2);
         Houses.putRegister(y, sum);
         due("the signature and n, nothing signed", y.verify(), 0);
         y.sign();
@@ -226,6 +232,19 @@ final class SignatureBoundaryTest {
         due("the signature and n", y.verify(), 0);
         Houses.putRegister(y, signature);
         due("the signature", y.verify(), 1);
+    }
+
+    /** A seed by whose key the empty message's signature and n are together a number of SIZE bytes. */
+    private static int seedWithRoomForN(int half) {
+        BigInteger most = ONE.shiftLeft(16 * half).subtract(ONE);
+        for (int word = 0; word < 50; word++) {
+            Model model = Houses.modelWithKey(half, 1, word);
+            model.sign();
+            if (model.registerNumber().add(model.parts[0]).compareTo(most) <= 0) {
+                return word;
+            }
+        }
+        return 0;
     }
 
     /** The last two bytes of a message whose signature and n are together a number of SIZE bytes. */
